@@ -17,6 +17,7 @@ public final class PromiseTest {
         changes();
         acts();
         shelves();
+        eightLines();
         Due.end();
     }
 
@@ -251,13 +252,13 @@ public final class PromiseTest {
         SwitchboardHeart x = new SwitchboardHeart();
         String[] right = {"l", "0", "9999", "0000", "l?w", "l?w;o", "l;w;o", "l|w&o<h=0".substring(0, 7), "!l", "-l",
             "--l", "!-!l", "2--3", "2-!3", "(l)", "((((((l))))))", "!!!!!!l", "-(-(-(l)))", "(!(!(!l)))", "!!!!!!l+!!!!!!w",
-            "(l<w)<o", "l<w&o>h|c=p", "l<w?l>w", "l*w/o%h", "(l|w)?(o&h)", "((((((l))))))*((((((w))))))"};
+            "(l<w)<o", "l<w&o>h|c=p", "l<w?l>w", "l*w/o%h", "l?((((((w))))))", "l;((((((w))))))", "(l|w)?(o&h)", "((((((l))))))*((((((w))))))"};
         for (String text : right) {
             due("7 right: " + text, tell(x, text), 1);
         }
         String[] wrong = {"@", "0", "+", "0", "l+", "2", "l w", "1", "12345", "4", "l+12345", "6", "l?", "2", "l?w?o", "3",
             ";", "0", "l;", "2", "l;;w", "2", "?l", "0", "l<w<o", "3", "l<w=o", "3", "l=w&o=h=c", "7", "()", "1", "(l", "2",
-            "(l))", "3", "l)", "1", "(l?w)", "2", "(l;w)", "2", "!!!!!!!l", "6", "-------l", "6", "(((((((l)))))))", "6",
+            "(l))", "3", "l?(((((((w", "8", "l;(((((((w", "8", "l)", "1", "(l?w)", "2", "(l;w)", "2", "!!!!!!!l", "6", "-------l", "6", "(((((((l)))))))", "6",
             "!(!(!(!l)))", "6", "-(!(-(l)))+(((((((l)))))))", "17", "lw", "1", "l2", "1", "2l", "1", "L", "0", "l!", "1", "l!=w", "1",
             "l<", "2", "!", "1", "((", "2", "l&&w", "2", "l||w", "2", "l==w", "2", "l<=w", "2", "l**w", "2", "l+*w", "2"};
         for (int i = 0; i < wrong.length; i += 2) {
@@ -609,6 +610,9 @@ public final class PromiseTest {
         due("15 none: no pair", y.stable(0), NOT);
         SwitchboardHeart z = town(0, 0, 0, 0, 0, 0, 0, 0);
         due("15 all ways of eight", z.stable(-1), 764);
+        SwitchboardHeart u = town(0, 0);
+        u.mend(1, 3, -1);
+        due("15 the first likes whom it has less than 0", u.stable(-1), 1);
     }
 
     private static void promise16() {
@@ -698,6 +702,14 @@ public final class PromiseTest {
         due("18 no way", x.which(0, 0), NOT);
         due("19 no way", x.sure(0), 0);
         due("20 no way", x.lamp(0), NOT);
+        bytes(x, 0, 8, 18);
+        due("19 asked first", x.sure(0), 0);
+        bytes(x, 0, 15, 25);
+        due("19 asked first", x.sure(0), 3);
+        bytes(x, 0, 15, 25, 28);
+        due("20 asked first, one way", x.lamp(0), 0);
+        bytes(x, 0, 15, 25, 27);
+        due("20 asked first, no way", x.lamp(0), NOT);
         bytes(x, 0);
         due("18 any", x.which(0, -1), 10);
         due("20 any", x.lamp(0), 0);
@@ -881,6 +893,16 @@ public final class PromiseTest {
         due("24 what 2", x.drawn(1, 101, 2), BAD);
         due("24 what -1", x.drawn(1, 101, -1), BAD);
         due("24 any seed", x.drawn(LEAST, 101, 1), 0);
+        // seed, nm, and both answers, by a program apart from this one
+        int[][] draws = {{7, 1024, 49, 665}, {-5, 2060, 118, 3304}, {123456789, 160, 5, 177}, {2147483647, 2001, 52, 52}, {0, 1530, 71, 1266}};
+        SwitchboardHeart y = town(50, 40, 30, 20, 10, 0);
+        y.mend(0, 4, 4);
+        y.mend(0, 5, 1);
+        tell(y, "h*9+3");
+        for (int[] draw : draws) {
+            due("24 needs of seed " + draw[0], y.drawn(draw[0], draw[1], 0), draw[2]);
+            due("24 unlawful of seed " + draw[0], y.drawn(draw[0], draw[1], 1), draw[3]);
+        }
     }
 
     // ---- 25 to 30
@@ -966,6 +988,7 @@ public final class PromiseTest {
         x.line(70);
         x.mend(0, 1, 77);
         x.putIn(2);
+        x.putIn(13);
         x.hour();
         due("30 hours of the image", x.back(), 2);
         due("30 warm", x.of(0, 0), 20);
@@ -974,7 +997,7 @@ public final class PromiseTest {
         due("30 one that came since: through to nobody", x.of(2, 6), NOT);
         due("30 one that came since: its hours", x.of(2, 7), 0);
         due("30 one that came since: warm as it is", x.of(2, 0), 65);
-        due("30 one that came since: warm as it is", x.of(3, 0), 68);
+        due("30 one that came since: warm as it is", x.of(3, 0), 75);
         due("30 needs are not laid back", x.of(0, 1), 77);
         due("30 led hours", x.led(0), 2);
         due("30 led put in", x.led(1), 1);
@@ -1055,10 +1078,38 @@ public final class PromiseTest {
         }
         due("31 the oldest are gone", x.undo(), STATE);
         due("31 warm", x.of(0, 0), 54);
+        unlikeChanges();
         for (int i = 39; i >= 0; i--) {
             due("32 again", x.redo(), i);
         }
         due("32 warm", x.of(0, 0), 94);
+    }
+
+    private static void unlikeChanges() {
+        SwitchboardHeart x = town(1, 2, 3, 4, 5, 6, 7);
+        for (int i = 0; i < 45; i++) {
+            x.mend(i % 7, i % 3, i % 3 == 2 ? 1 + i / 21 : 40 + i);
+        }
+        int[] was = new int[21];
+        for (int i = 0; i < 21; i++) {
+            was[i] = x.of(i / 3, i % 3);
+        }
+        for (int i = 0; i < 40; i++) {
+            x.undo();
+        }
+        due("31 the first five stay", x.of(0, 0), 40);
+        due("31 the first five stay", x.of(1, 1), 41);
+        due("31 the first five stay", x.of(2, 2), 1);
+        due("31 the first five stay", x.of(3, 0), 43);
+        due("31 the first five stay", x.of(4, 1), 44);
+        due("31 the sixth is undone", x.of(5, 2), 0);
+        due("31 the seventh is undone", x.of(6, 0), 7);
+        for (int i = 0; i < 40; i++) {
+            x.redo();
+        }
+        for (int i = 0; i < 21; i++) {
+            due("32 all again", x.of(i / 3, i % 3), was[i]);
+        }
     }
 
     private static void changesAndDeeds() {
@@ -1142,6 +1193,79 @@ public final class PromiseTest {
         due("34 no such act", x.act(8, -1, 1), 0);
         due("34 no such body", x.act(-1, 0, 1), 0);
         due("42 none ran", x.count(5), 0);
+    }
+
+    // ---- lines of greater numbers, where ten and nine times a line are far apart
+
+    private static SwitchboardHeart eight() {
+        SwitchboardHeart x = town(10, 11, 12, 13, 14, 15, 16, 17);
+        for (int one = 0; one < 8; one++) {
+            for (int other = 0; other < 8; other++) {
+                x.mend(10 * one + other, 3, (3 * one + 5 * other) % 19 - 9);
+            }
+        }
+        return x;
+    }
+
+    private static void eightLines() {
+        SwitchboardHeart x = eight();
+        for (int one = 0; one < 8; one++) {
+            for (int other = 0; other < 8; other++) {
+                int ab = 10 * one + other;
+                int liking = (3 * one + 5 * other) % 19 - 9;
+                due("5 likes of " + ab, x.of(ab, 3), one == other ? VOID : liking);
+                due("8 warmer " + ab, x.warmer(ab, 0), one == other ? VOID : liking + 5);
+            }
+        }
+        due("5 no line 8", x.of(78, 3), VOID);
+        due("5 no line 8", x.of(87, 3), VOID);
+        bytes(x, 0, 76, 45, -1, 67, -1, 67, 54);
+        due("11 through", x.through(0, 3, 76), 3);
+        due("11 through", x.through(0, 3, 45), 1);
+        due("9 later", x.later(0, 1, 7), 17 + (21 + 30) % 19 - 9 + 5);
+        due("9 later", x.later(0, 1, 4), 14 + (12 + 25) % 19 - 9 + 5);
+        due("25 in", x.putIn(76), 1);
+        due("26 not these", x.pull(75), STATE);
+        due("26 not these", x.pull(65), STATE);
+        x.hour();
+        due("5 through to", x.of(6, 6), 7);
+        due("26 out", x.pull(67), 1);
+        due("5 hours of one pulled out", x.of(6, 7), 0);
+        due("5 hours of one pulled out", x.of(7, 7), 0);
+        eightAsked();
+    }
+
+    private static void eightAsked() {
+        SwitchboardHeart x = eight();
+        // 7 likes 0 to 6 by -7, -2, 3, 8, -6, -1, 4
+        due("17 most", x.instead(76), 3);
+        due("17 most but 3", x.instead(73), 6);
+        // 3 likes 0, 1, 2, 4, 5, 6, 7 by 0, 5, -9, 1, 6, -8, -3
+        due("17 most", x.instead(37), 5);
+        x.mend(0, 1, 0);
+        x.mend(7, 1, 0);
+        x.mend(6, 1, 35);
+        x.mend(5, 1, 20);
+        // 6 likes 5 by -4, 5 likes 6 by -2: 1 and 3 an hour
+        due("16 soon", x.soon(65), 19);
+        due("16 soon", x.soon(56), 19);
+        bytes(x, 0, 76, -1, 65, -1, 53, -1, 30);
+        due("21 cut", x.cut(0, 4, 73), 64 + 32);
+        due("21 cut", x.cut(0, 4, 70), 64 + 32 + 8);
+        due("21 cut of 0", x.cut(0, 4, 67), 0);
+        due("21 does not know", x.cut(0, 3, 70), 0);
+        bytes(x, 0, 50, -1, 6, -1, 67);
+        due("21 0 is between", x.cut(0, 2, 56), 1);
+        due("21 0 is between", x.cut(0, 3, 57), 1 + 64);
+        due("31 undone", x.undo(), 39);
+        due("31 needs", x.of(5, 1), 30);
+        SwitchboardHeart y = town(0, 0, 0, 0, 0, 0, 0, 0);
+        y.mend(67, 3, 1);
+        y.mend(76, 3, 1);
+        due("15 the two that like each other", y.stable(0), 67);
+        y.mend(1, 3, -1);
+        y.mend(67, 3, -1);
+        due("15 ways without 01 and 67", y.stable(-1), 764 - 76 - 76 + 10);
     }
 
     // ---- 36 to 42
