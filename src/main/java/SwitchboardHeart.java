@@ -591,7 +591,6 @@ public final class SwitchboardHeart {
         int length = 0;
         int drafted = 0;
         int at = 0;
-        int top = 0;
         int likes = 0;
         int warmOne = 0;
         int warmOther = 0;
@@ -783,19 +782,27 @@ public final class SwitchboardHeart {
         }
 
         private int run() {
-            top = 0;
-            for (int step = 0; step < length && step < MOST_STEPS; step++) {
+            int top = 0;
+            for (int step = 0; step < length && step < MOST_STEPS && top < MOST_TAPE; step++) {
                 int sign = -steps[step];
                 if (sign <= 0) {
-                    push(-sign);
+                    stack[top] = -sign;
+                    top++;
+                } else if (sign >= 'a' && sign <= 'z') {
+                    stack[top] = named(sign);
+                    top++;
+                } else if (top < 1) {
+                    return 0;
                 } else if (sign == ';') {
-                    return pop();
+                    return stack[top - 1];
                 } else if (sign == '?') {
-                    step = pop() == 0 ? lineBehind(step) : step + 1;
-                } else if (isName(sign)) {
-                    push(named(sign));
-                } else {
-                    work(sign);
+                    top--;
+                    step = stack[top] == 0 ? lineBehind(step) : step + 1;
+                } else if (sign == '!' || sign == LESS) {
+                    stack[top - 1] = sign == LESS ? -stack[top - 1] : stack[top - 1] == 0 ? 1 : 0;
+                } else if (top > 1) {
+                    top--;
+                    stack[top - 1] = joined(stack[top - 1], sign, stack[top]);
                 }
             }
             return 0;
@@ -818,17 +825,6 @@ public final class SwitchboardHeart {
             }
         }
 
-        private void work(int sign) {
-            int right = pop();
-            if (sign == '!') {
-                push(right == 0 ? 1 : 0);
-            } else if (sign == LESS) {
-                push(-right);
-            } else {
-                push(joined(pop(), sign, right));
-            }
-        }
-
         private static int joined(int left, int sign, int right) {
             switch (sign) {
                 case '|': return left != 0 || right != 0 ? 1 : 0;
@@ -843,21 +839,6 @@ public final class SwitchboardHeart {
                 case '%': return right == 0 ? 0 : left % right;
                 default: return 0;
             }
-        }
-
-        private void push(int v) {
-            if (top < MOST_TAPE) {
-                stack[top] = v;
-                top++;
-            }
-        }
-
-        private int pop() {
-            if (top <= 0) {
-                return 0;
-            }
-            top--;
-            return stack[top];
         }
     }
 

@@ -1229,7 +1229,7 @@ public final class PromiseTest {
         due("26 not these", x.pull(65), STATE);
         x.hour();
         due("5 through to", x.of(6, 6), 7);
-        due("26 out", x.pull(67), 1);
+        due("26 out", x.pull(76), 1);
         due("5 hours of one pulled out", x.of(6, 7), 0);
         due("5 hours of one pulled out", x.of(7, 7), 0);
         eightAsked();
@@ -1242,6 +1242,10 @@ public final class PromiseTest {
         due("17 most but 3", x.instead(73), 6);
         // 3 likes 0, 1, 2, 4, 5, 6, 7 by 0, 5, -9, 1, 6, -8, -3
         due("17 most", x.instead(37), 5);
+        // 2 likes 0, 1, 3, 4, 5, 6, 7 by -3, 2, -7, -2, 3, 8, -6
+        due("17 most", x.instead(26), 5);
+        x.mend(20, 3, 9);
+        due("17 the least one too", x.instead(26), 0);
         x.mend(0, 1, 0);
         x.mend(7, 1, 0);
         x.mend(6, 1, 35);
@@ -1259,6 +1263,18 @@ public final class PromiseTest {
         due("21 0 is between", x.cut(0, 3, 57), 1 + 64);
         due("31 undone", x.undo(), 39);
         due("31 needs", x.of(5, 1), 30);
+        bytes(x, 0, 75, 64);
+        // 38 of 0 to 3; told, 7 to 5 and 6 to 4: 21, 23, 12, 14; a slip to 5, which is through: 21, 23, 14, 12;
+        // a slip to 6, so that 6 to 4 is left out: 26, 27, 13, 12
+        fraction(x, 11, 108, 1, 1);
+        fraction(x, 11, 109, 1, 12);
+        fraction(x, 11, 116, 1, 12);
+        fraction(x, 11, 117, 0, 1);
+        SwitchboardHeart z = town(1, 1, 1, 1);
+        z.mend(0, 2, 3);
+        z.mend(3, 2, 3);
+        bytes(z, 0, 13);
+        due("13 0 hears it by the party line", z.news(0, 1, 1, -1), 1 + 2 + 8);
         SwitchboardHeart y = town(0, 0, 0, 0, 0, 0, 0, 0);
         y.mend(67, 3, 1);
         y.mend(76, 3, 1);
