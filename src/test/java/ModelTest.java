@@ -1,3 +1,5 @@
+import java.util.ArrayList;
+import java.util.List;
 import java.util.Random;
 
 /** Random runs, always the same ones, on the class and on the Model: every answer must be the same. */
@@ -34,6 +36,9 @@ public final class ModelTest {
             if (i % 60 == 10) {
                 tellDay();
             }
+            if (i == 9 && run % 3 > 0) {
+                tellLikes();
+            }
             if (i < 9 && !few) {
                 line();
             } else {
@@ -55,6 +60,22 @@ public final class ModelTest {
         said = call + java.util.Arrays.toString(with);
         got = has;
         want = due;
+    }
+
+    /** Random runs alone would seldom tell enough likings and party lines for pairs to be parted by them. */
+    private void tellLikes() {
+        int most = 1 + random.nextInt(9);
+        for (int i = 0; i < 60; i++) {
+            int ab = 10 * random.nextInt(8) + random.nextInt(8);
+            int v = random.nextInt(2 * most + 1) - most;
+            Due.due("mend(" + ab + ", 3, " + v + ")", x.mend(ab, 3, v), m.mend(ab, 3, v));
+        }
+        for (int i = 0; i < 8; i++) {
+            int v = Math.max(0, random.nextInt(7) - 3);
+            Due.due("mend(" + i + ", 2, " + v + ")", x.mend(i, 2, v), m.mend(i, 2, v));
+        }
+        int cords = 1 + random.nextInt(4);
+        Due.due("mend(0, 4, " + cords + ")", x.mend(0, 4, cords), m.mend(0, 4, cords));
     }
 
     /** A number mostly as it may be, at times one beside it, seldom a wild one. */
@@ -143,16 +164,66 @@ public final class ModelTest {
     }
 
     private void tellDay() {
+        tellDay(random.nextInt(6));
+    }
+
+    /** Hours of few pairs; many hours have the pairs of the one ahead, told the same way or turned about. */
+    private void tellDay(int shelf) {
+        int n = random.nextInt(10) == 0 ? random.nextInt(3) : random.nextInt(61);
+        x.row(shelf, 0, n);
+        m.row(shelf, 0, n);
+        List<Integer> hour = new ArrayList<>();
+        List<Integer> told = new ArrayList<>();
+        while (told.size() < n) {
+            List<Integer> next = new ArrayList<>();
+            for (int pair : hour) {
+                if (random.nextInt(3) > 0) {
+                    next.add(random.nextInt(3) == 0 && pair >= 0 ? pair % 10 * 10 + pair / 10 : pair);
+                }
+            }
+            for (int more = random.nextInt(3); more > 0; more--) {
+                next.add(random.nextInt(12) == 0 ? (int) (byte) random.nextInt() : 10 * line0() + line0());
+            }
+            hour = next;
+            told.addAll(next);
+            told.add(-1);
+        }
+        for (int i = 0; i < n; i++) {
+            x.put(shelf, i, told.get(i));
+            m.put(shelf, i, told.get(i));
+        }
+    }
+
+    private int line0() {
+        return random.nextInt(Math.max(1, m.count(0)));
+    }
+
+    /** Mostly a shelf that holds a day. */
+    private int dayShelf() {
+        if (random.nextInt(8) == 0) {
+            return shelf();
+        }
         int shelf = random.nextInt(6);
-        int n = random.nextInt(61);
+        if (random.nextInt(3) == 0 || m.have(shelf, 0, 0) < 0) {
+            tellDay(shelf);
+        }
+        return shelf;
+    }
+
+    /** Mostly a pair that the day of a shelf tells. */
+    private int pairOf(int shelf) {
+        long told = random.nextInt(6) == 0 ? -1 : m.element(shelf, random.nextInt(12));
+        return told < 0 || told > 77 ? pair() : (int) told;
+    }
+
+    /** Threes for lines(), most of them as they may be. */
+    private void tellThrees(int shelf) {
+        int n = random.nextInt(31);
         x.row(shelf, 0, n);
         m.row(shelf, 0, n);
         for (int i = 0; i < n; i++) {
-            int way = random.nextInt(6);
-            long v = way == 0 ? -1 : way == 1 ? random.nextInt(256) : 10L * one() + one();
-            if (i >= 2 && way >= 4) {
-                v = m.element(shelf, i - 2);
-            }
+            int v = random.nextInt(i % 3 == 2 ? 4 : 100);
+            v = random.nextInt(25) == 0 ? random.nextInt(256) : v;
             x.put(shelf, i, v);
             m.put(shelf, i, v);
         }
@@ -196,7 +267,13 @@ public final class ModelTest {
         int letter = random.nextInt(30) == 0 ? number(0, 255) : SIGNS.charAt(random.nextInt(SIGNS.length()));
         switch (method) {
             case 0 -> answer("line", x.line(v), m.line(v), v);
-            case 1 -> answer("lines", x.lines(shelf, i, n), m.lines(shelf, i, n), shelf, i, n);
+            case 1 -> {
+                if (shelf >= 0 && shelf < 6 && m.count(0) < 8) {
+                    tellThrees(shelf);
+                }
+                int from = random.nextBoolean() ? 0 : random.nextInt(4) == 0 ? i : 3;
+                answer("lines", x.lines(shelf, from, n), m.lines(shelf, from, n), shelf, from, n);
+            }
             case 2, 3 -> {
                 int what = number(0, 5);
                 int number = what < 3 ? one() : what == 3 ? pair() : number(0, 0);
@@ -227,8 +304,8 @@ public final class ModelTest {
     }
 
     private void callThought(int method) {
-        int shelf = shelf();
-        int n = number(0, 60);
+        int shelf = method < 13 ? dayShelf() : shelf();
+        int n = random.nextBoolean() ? number(0, 60) : number(0, 8);
         int one = one();
         int ab = pair();
         int k = number(-1, 4);
@@ -239,8 +316,9 @@ public final class ModelTest {
                 answer("have", x.have(shelf, n, what), m.have(shelf, n, what), shelf, n, what);
             }
             case 10 -> {
-                int few = number(0, 12);
-                answer("through", x.through(shelf, few, ab), m.through(shelf, few, ab), shelf, few, ab);
+                int few = number(0, 6);
+                int two = pairOf(shelf);
+                answer("through", x.through(shelf, few, two), m.through(shelf, few, two), shelf, few, two);
             }
             case 11 -> answer("idle", x.idle(shelf, n, one), m.idle(shelf, n, one), shelf, n, one);
             case 12 -> {
@@ -258,7 +336,7 @@ public final class ModelTest {
     }
 
     private void callReadBack(int method) {
-        int shelf = shelf();
+        int shelf = method == 20 || method == 22 ? dayShelf() : shelf();
         int n = number(0, 12);
         int ab = pair();
         if (method < 20 && method > 16 && shelf >= 0 && shelf < 6 && random.nextInt(3) > 0) {
@@ -272,19 +350,48 @@ public final class ModelTest {
             }
             case 18 -> answer("sure", x.sure(shelf), m.sure(shelf), shelf);
             case 19 -> answer("lamp", x.lamp(shelf), m.lamp(shelf), shelf);
-            case 20 -> answer("cut", x.cut(shelf, n, ab), m.cut(shelf, n, ab), shelf, n, ab);
+            case 20 -> {
+                int two = ab;
+                for (int more = 0; more < 20 && m.cut(shelf, n, two) == 0; more++) {
+                    two = pair();
+                }
+                answer("cut", x.cut(shelf, n, two), m.cut(shelf, n, two), shelf, n, two);
+            }
             case 21 -> answer("first", x.first(), m.first());
             default -> {
                 int skill = number(0, 12);
-                int v = number(0, 500);
+                int v = random.nextInt(8) == 0 ? number(0, 500) : nearSum(shelf, skill);
                 int part = number(0, 1);
                 answer("nieces", x.nieces(shelf, skill, v, part), m.nieces(shelf, skill, v, part), shelf, skill, v, part);
             }
         }
     }
 
+    /** A sum at which the odds are neither 0 nor 1, if there is one near. */
+    private int nearSum(int shelf, int skill) {
+        int sum = 0;
+        for (int i = 0; i < m.count(0); i++) {
+            sum += m.of(i, 0);
+        }
+        int from = sum - 40 + random.nextInt(20);
+        for (int v = from; v < from + 90; v++) {
+            long above = m.nieces(shelf, skill, v, 0);
+            if (above > 1 || (above == 1 && m.nieces(shelf, skill, v, 1) > 1)) {
+                return v;
+            }
+        }
+        return sum - 20 + random.nextInt(40);
+    }
+
+    /** Mostly a pair that is in. */
+    private int pairIn() {
+        int one = line0();
+        int other = m.of(one, 6);
+        return other < 0 || random.nextInt(4) == 0 ? pair() : 10 * one + other;
+    }
+
     private void callDeeds(int method) {
-        int ab = pair();
+        int ab = method == 25 && random.nextInt(3) == 0 ? pairIn() : pair();
         switch (method) {
             case 23 -> {
                 int seed = random.nextInt();
@@ -314,6 +421,9 @@ public final class ModelTest {
                 }
             }
             default -> {
+                for (int more = random.nextInt(8) == 0 ? random.nextInt(9) : 0; more > 0; more--) {
+                    Due.due("undo, one of many", x.undo(), m.undo());
+                }
                 if (random.nextInt(3) > 0) {
                     answer("undo", x.undo(), m.undo());
                 } else {
@@ -338,7 +448,12 @@ public final class ModelTest {
                 int with = random.nextInt(3) == 0 ? random.nextInt() : number(-9, 9);
                 answer("act", x.act(body, act, with), m.act(body, act, with), body, act, with);
             }
-            case 34 -> answer("trace", x.trace(i), m.trace(i), i);
+            case 34 -> {
+                int few = number(0, 9);
+                int body = number(0, Math.max(0, m.count(4) - 1));
+                Due.due("act ahead of trace", x.act(body, few % 4, i), m.act(body, few % 4, i));
+                answer("trace", x.trace(few), m.trace(few), few);
+            }
             case 35 -> {
                 int body = number(-1, Math.max(0, m.count(4) - 1));
                 answer("keep", x.keep(shelf, body), m.keep(shelf, body), shelf, body);
@@ -361,6 +476,10 @@ public final class ModelTest {
             }
             case 40 -> {
                 int k = number(0, 7);
+                if (random.nextInt(3) > 0 && m.count(4) > 0 && shelf >= 0 && shelf < 6) {
+                    int body = random.nextInt(m.count(4));
+                    Due.due("keep ahead of taken", x.keep(shelf, body), m.keep(shelf, body));
+                }
                 answer("taken", x.taken(shelf, k), m.taken(shelf, k), shelf, k);
             }
             default -> {

@@ -811,6 +811,9 @@ public final class PromiseTest {
         fraction(x, 5, 74, 0, 1);
         fraction(x, 5, 68, 1, 1);
         fraction(x, 5, 69, 5, 12);
+        fraction(x, 10, 69, 5, 6);
+        fraction(x, 2, 69, 1, 6);
+        fraction(x, 9, 69, 3, 4);
         fraction(x, 5, LEAST, 1, 1);
         fraction(x, 5, MOST, 0, 1);
         bytes(x, 0, -1, 1);
