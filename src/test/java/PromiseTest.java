@@ -1,9 +1,5 @@
 /** Each promise by its number: ordinary inputs, the edges that the document names, wrong inputs. */
-public final class PromiseTest {
-    private static final int BAD = -1, NOT = -2, FULL = -3, STATE = -5, VOID = -2000000000;
-    private static final long NO_LONG = Long.MIN_VALUE;
-    private static final int LEAST = Integer.MIN_VALUE, MOST = Integer.MAX_VALUE;
-
+public final class PromiseTest extends Board {
     private PromiseTest() {
     }
 
@@ -19,32 +15,6 @@ public final class PromiseTest {
         shelves();
         eightLines();
         Due.end();
-    }
-
-    private static void due(String what, long got, long want) {
-        Due.due(what, got, want);
-    }
-
-    private static SwitchboardHeart town(int... warm) {
-        SwitchboardHeart x = new SwitchboardHeart();
-        for (int w : warm) {
-            x.line(w);
-        }
-        return x;
-    }
-
-    private static void bytes(SwitchboardHeart x, int shelf, int... row) {
-        x.row(shelf, 0, row.length);
-        for (int i = 0; i < row.length; i++) {
-            x.put(shelf, i, row[i]);
-        }
-    }
-
-    private static int tell(SwitchboardHeart x, String text) {
-        for (int i = 0; i < text.length(); i++) {
-            x.feed(text.charAt(i));
-        }
-        return x.law();
     }
 
     // ---- 1 to 5
