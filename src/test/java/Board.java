@@ -47,6 +47,12 @@ abstract class Board {
         return x.law();
     }
 
+    /** What nieces make of the day on shelf 0: both parts of the fraction. */
+    static void fraction(SwitchboardHeart x, int skill, int v, long above, long below) {
+        due("nieces(), above the line, skill " + skill + ", v " + v, x.nieces(0, skill, v, 0), above);
+        due("nieces(), below the line, skill " + skill + ", v " + v, x.nieces(0, skill, v, 1), below);
+    }
+
     /** What is just outside of a number's ends, and what is far outside, is refused. */
     static void refusedOutside(String call, int least, int most, long refusal, IntToLongFunction asked) {
         int[] outside = {least - 1, most + 1, least - 1000, most + 1000, LEAST, MOST};

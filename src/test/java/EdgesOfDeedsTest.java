@@ -26,6 +26,7 @@ public final class EdgesOfDeedsTest extends Board {
         theSameIsNoChange();
         fortyChanges();
         fortyOneChanges();
+        fortyOneUnlikeChanges();
         doneAgain();
         whatEndsDoneAgain();
         whatDoesNotEndIt();
@@ -98,6 +99,8 @@ public final class EdgesOfDeedsTest extends Board {
         due("for 70, from its putting in on", x.pull(21), 70);
         due("in", x.count(1), 0);
         due("led", x.led(2), 3);
+        x.putIn(67);
+        due("the last two", x.pull(76), 0);
     }
 
     private static void pullRefused() {
@@ -444,6 +447,11 @@ public final class EdgesOfDeedsTest extends Board {
         due("WARM", x.of(0, 0), 10);
         due("the first is not kept", x.undo(), STATE);
         due("NEEDS", x.of(1, 1), 99);
+        due("redo()", x.redo(), 39);
+        due("redo()", x.redo(), 38);
+        due("WARM", x.of(0, 0), 12);
+        due("undo()", x.undo(), 1);
+        due("undo()", x.undo(), 0);
         x.redo();
         x.mend(0, 0, 77);
         due("two now", x.count(3), 2);
@@ -455,6 +463,35 @@ public final class EdgesOfDeedsTest extends Board {
             due("undo()", x.undo(), i);
         }
         due("WARM", x.of(0, 0), 11);
+    }
+
+    /** A change of each kind in turn, none of which tells the same number. */
+    private static int[] unlike(int i) {
+        int round = 1 + i / 6;
+        int[][] all = {{i % 8, 0, 10 + round}, {i % 8, 1, 40 + round}, {i % 8, 2, 1 + round % 3}, {70 + i % 7, 3, round},
+            {0, 4, 3 + round % 2}, {0, 5, 3 + round % 2}};
+        return all[i % 6];
+    }
+
+    private static void fortyOneUnlikeChanges() {
+        sentence("40 at most are kept");
+        SwitchboardHeart x = townOf(8, 50);
+        int[] was = new int[41];
+        for (int i = 0; i < 41; i++) {
+            was[i] = x.mend(unlike(i)[0], unlike(i)[1], unlike(i)[2]);
+            due("changes", x.count(3), Math.min(40, i + 1));
+        }
+        for (int i = 40; i >= 1; i--) {
+            due("undo()", x.undo(), i - 1);
+            due("what it was, " + i, x.of(unlike(i)[0], unlike(i)[1]), was[i]);
+        }
+        due("the first is not kept", x.undo(), STATE);
+        due("what it became", x.of(unlike(0)[0], unlike(0)[1]), unlike(0)[2]);
+        for (int i = 1; i < 41; i++) {
+            due("redo()", x.redo(), 40 - i);
+            due("what it became, " + i, x.of(unlike(i)[0], unlike(i)[1]), unlike(i)[2]);
+        }
+        due("no more", x.redo(), STATE);
     }
 
     private static void doneAgain() {

@@ -425,6 +425,8 @@ public final class EdgesOfHoursTest extends Board {
         due("both party lines", x.news(0, 1, 1, -1), 1 + 2 + 16 + 32);
         due("who knows it, but is not through", x.news(0, 1, 4, -1), 16);
         due("by no PLUGS", x.news(0, 0, 0, -1), 1);
+        bytes(x, 0, 42);
+        due("the first line hears it", x.news(0, 1, 4, -1), 1 + 4 + 16);
         bytes(x, 0, 23);
         due("pairs that do not know it", x.news(0, 1, 0, -1), 1);
         bytes(x, 0, 23, -1, 60);

@@ -367,5 +367,7 @@ public final class EdgesOfLinesTest extends Board {
         x.pull(2);
         due("through to nobody again", x.of(2, 6), NOT);
         due("for no hours again", x.of(2, 7), 0);
+        due("nor 0", x.of(0, 6), NOT);
+        due("nor 0", x.of(0, 7), 0);
     }
 }

@@ -45,6 +45,11 @@ public final class EdgesOfOddsTest extends Board {
         due("0 to 1 by 7", x.cut(0, 2, 1), 128);
         bytes(x, 0, 1);
         due("nobody between", x.cut(0, 1, 1), 0);
+        bytes(x, 0, 60, -1, 7);
+        due("6 to 7 by 0", x.cut(0, 2, 67), 1);
+        bytes(x, 0, 76, -1, 75);
+        due("6 to 5 by 7", x.cut(0, 2, 65), 128);
+        due("5 to 6 never", x.cut(0, 2, 56), 0);
         bytes(x, 0, 1, -1, 12, -1, 23, -1, 34, -1, 45, -1, 56, -1, 67);
         due("all between", x.cut(0, 7, 7), 2 + 4 + 8 + 16 + 32 + 64);
         due("all between", x.cut(0, 60, 7), 2 + 4 + 8 + 16 + 32 + 64);
@@ -162,11 +167,6 @@ public final class EdgesOfOddsTest extends Board {
     }
 
     // ---- 23
-
-    private static void fraction(SwitchboardHeart x, int skill, int v, long above, long below) {
-        due("above the line, skill " + skill + ", v " + v, x.nieces(0, skill, v, 0), above);
-        due("below the line, skill " + skill + ", v " + v, x.nieces(0, skill, v, 1), below);
-    }
 
     private static void niecesSkill() {
         sentence("each goes to the told other LINE by SKILL (0 .. 12) of twelve, else from the first one to the LINE next above that other one");

@@ -404,6 +404,11 @@ public final class EdgesOfTheLawTest extends Board {
         given("7&9", 1);
         given("-7&-9", 1);
         given("7&0", 0);
+        given("0&9", 0);
+        given("-1&9", 1);
+        given("9&-1", 1);
+        given("0|-1", 1);
+        given("-1|0", 1);
         given("!7", 0);
         given("!-7", 0);
         given("!0", 1);

@@ -33,6 +33,7 @@ public final class EdgesOfWaysTest extends Board {
         sure();
         lampParts();
         lampNone();
+        askedFirst();
         Due.end();
     }
 
@@ -557,5 +558,23 @@ public final class EdgesOfWaysTest extends Board {
         due("one LINE, one way", x.lamp(0), 0);
         bytes(x, 0, 49);
         due("no way", x.lamp(0), NOT);
+        bytes(x, 0, 48);
+        due("one way again", x.lamp(0), 0);
+    }
+
+    private static void askedFirst() {
+        sentence("if one saw whether it is through, parts these ways best");
+        SwitchboardHeart x = townOf(3, 50);
+        bytes(x, 0, 55);
+        due("LAMP, asked ahead of WHICH and SURE", x.lamp(0), 1);
+        bytes(x, 0);
+        due("LAMP of another row", x.lamp(0), 0);
+        bytes(x, 0, 48, 55);
+        due("SURE, asked ahead of WHICH", x.sure(0), 2 + 4);
+        bytes(x, 0, 55, 48);
+        due("SURE of another row", x.sure(0), 1 + 4);
+        due("a pair of the first, asked ahead of how many", x.which(0, 0), 2);
+        bytes(x, 0, 48, 48);
+        due("how many", x.which(0, -1), 1);
     }
 }

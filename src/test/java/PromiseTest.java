@@ -764,11 +764,6 @@ public final class PromiseTest extends Board {
         due("22 most", x.first(), 0);
     }
 
-    private static void fraction(SwitchboardHeart x, int skill, int v, long above, long below) {
-        due("23 above, skill " + skill + ", v " + v, x.nieces(0, skill, v, 0), above);
-        due("23 below, skill " + skill + ", v " + v, x.nieces(0, skill, v, 1), below);
-    }
-
     private static void promise23() {
         SwitchboardHeart x = town(10, 20, 30);
         x.mend(1, 3, 5);
