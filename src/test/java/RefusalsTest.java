@@ -20,6 +20,7 @@ public final class RefusalsTest extends Board {
         shelfRefusals();
         emptyRefusals();
         thoughtChangesNothing();
+        memoryOfItsOwn();
         pairsOfLines();
         Due.end();
     }
@@ -326,6 +327,28 @@ public final class RefusalsTest extends Board {
         unchanged("nieces(0, 6, 100, 0)", x -> x.nieces(0, 6, 100, 0));
         unchanged("drawn(5, 2060, 0)", x -> x.drawn(5, 2060, 0));
         unchanged("warmer(12, 99)", x -> x.warmer(12, 99));
+    }
+
+    private static void memoryOfItsOwn() {
+        sentence("All memory is the class's own.");
+        SwitchboardHeart x = full();
+        SwitchboardHeart y = full();
+        y.mend(0, 4, 4);
+        y.putIn(45);
+        y.hour();
+        y.law();
+        y.image();
+        y.row(0, 0, 60);
+        y.keep(1, -1);
+        y.act(0, 0, 1);
+        y.later(3, 60, 0);
+        y.drawn(1, 2060, 0);
+        alike("all that another one does", x, full());
+        Due.dueTrue("a new one is as a new one", allOf(new SwitchboardHeart()).equals(allOf(new SwitchboardHeart())));
+        SwitchboardHeart z = new SwitchboardHeart();
+        for (int what = 0; what <= 5; what++) {
+            due("count(" + what + ") of a new one", z.count(what), 0);
+        }
     }
 
     private static void pairsOfLines() {
